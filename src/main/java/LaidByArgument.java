@@ -424,7 +424,10 @@ public final class LaidByArgument {
         if (one == null || !isFrom0To(n, MOST_TRIED) || !isFrom0To(what, 1)) {
             return BAD;
         }
-        mornings.tryAll(one, n, day, rule());
+        mornings.begin(one);
+        for (int length = 1; length <= n; length++) {
+            mornings.tryAll(length, day, rule());
+        }
         int best = mornings.bestOf(n);
         return what == 0 ? mornings.numberOf(best) : mornings.laidOn(best);
     }
@@ -450,8 +453,14 @@ public final class LaidByArgument {
         if (one == null || !isArgument(point)) {
             return BAD;
         }
-        mornings.tryAll(one, MOST_TRIED, day, rule());
-        return mornings.fewestToHold(point);
+        mornings.begin(one);
+        for (int length = 0; length <= MOST_TRIED; length++) {
+            mornings.tryAll(length, day, rule());
+            if (mornings.isHeldBehind(length, point)) {
+                return length;
+            }
+        }
+        return NONE;
     }
 
     public int agree(int hen, int other) {
@@ -849,11 +858,11 @@ public final class LaidByArgument {
         }
 
         int struckBy(int point) {
-            return isArgument(point) ? struck[point] : 0;
+            return point >= 0 && point < ARGUMENTS ? struck[point] : 0;
         }
 
         int strikersOf(int point) {
-            return isArgument(point) ? strikers[point] : 0;
+            return point >= 0 && point < ARGUMENTS ? strikers[point] : 0;
         }
 
         int struckByAll(int set) {
@@ -1086,13 +1095,18 @@ public final class LaidByArgument {
             this.manner = manner;
         }
 
-        void tryAll(Hen hen, int n, int day, Text rule) {
+        /** The morning of none. */
+        void begin(Hen hen) {
             thought.become(hen);
             held[0] = hen.held;
             eggs[0] = hen.eggs;
             laid[0] = 0;
+        }
+
+        /** Those of n ARGUMENTS; all shorter ones were tried ahead. */
+        void tryAll(int n, int day, Text rule) {
             int end = firstOf(n + 1);
-            for (int m = 1; m < end && m < MORNINGS; m++) {
+            for (int m = Math.max(1, firstOf(n)); m < end && m < MORNINGS; m++) {
                 int ahead = (m - 1) / ARGUMENTS;
                 thought.held = held[ahead];
                 thought.eggs = eggs[ahead];
@@ -1117,13 +1131,14 @@ public final class LaidByArgument {
             return m >= 0 && m < MORNINGS ? laid[m] : 0;
         }
 
-        int fewestToHold(int point) {
-            for (int m = 0; m < MORNINGS; m++) {
+        boolean isHeldBehind(int n, int point) {
+            int end = firstOf(n + 1);
+            for (int m = firstOf(n); m < end && m < MORNINGS; m++) {
                 if (has(held[m], point)) {
-                    return lengthOf(m);
+                    return true;
                 }
             }
-            return NONE;
+            return false;
         }
 
         int numberOf(int m) {
@@ -1144,16 +1159,6 @@ public final class LaidByArgument {
                 first = ARGUMENTS * first + 1;
             }
             return first;
-        }
-
-        private static int lengthOf(int m) {
-            int length = 0;
-            for (int n = 1; n <= MOST_TRIED; n++) {
-                if (m >= firstOf(n)) {
-                    length = n;
-                }
-            }
-            return length;
         }
     }
 
@@ -1276,11 +1281,11 @@ public final class LaidByArgument {
         }
 
         boolean spells(String word, int from, int end) {
-            if (end - from != word.length()) {
+            if (from < 0 || end > size || end - from != word.length()) {
                 return false;
             }
             for (int i = 0; i < word.length(); i++) {
-                if (byteAt(from + i) != word.charAt(i)) {
+                if (bytes[from + i] != word.charAt(i)) {
                     return false;
                 }
             }
