@@ -1473,12 +1473,9 @@ public final class LaidByArgument {
             }
         }
 
+        /** One that would be too many stays where it is, and is the FAULT, for nothing else takes it. */
         private boolean isOpened(int sort, int open) {
-            if (!isNext(sort)) {
-                return false;
-            }
-            if (open >= MOST_OPEN) {
-                fail();
+            if (!isNext(sort) || open >= MOST_OPEN) {
                 return false;
             }
             tokens.advance();

@@ -58,6 +58,11 @@ public final class BestTest {
         CHECKS.due("of the last one", 1, x.best(3, 2));
         CHECKS.due("how near", 7, x.best(3, 3));
         x.set(2, 3, 57);
+        CHECKS.due("of the second one", 2, x.best(1, 2));
+        x.set(2, 1, 1022);
+        CHECKS.due("the first one is near too", 0, x.best(1, 2));
+        CHECKS.due("how near", 9, x.best(1, 3));
+        x.set(2, 1, 0);
         CHECKS.due("one nearer", 3, x.best(0, 2));
         CHECKS.due("how near", 4, x.best(0, 3));
     }
@@ -119,6 +124,28 @@ public final class BestTest {
         CHECKS.due("6, 6, 6", 7 * 133, x.three(0, 3, 0));
         CHECKS.due("6, 6", 7 * 12, x.three(0, 2, 0));
         CHECKS.due("again, after the longer ones", 12, x.three(0, 2, 1));
+        x.set(3, 0, 2);
+        CHECKS.due("by the eggs that she has", 21, x.three(0, 1, 1));
+        threeThatEndsWithTheFirst();
+    }
+
+    private static void threeThatEndsWithTheFirst() {
+        LaidByArgument x = new LaidByArgument();
+        x.hen(0, 0);
+        x.against(9, 0, 1);
+        x.against(8, 9, 1);
+        x.against(7, 9, 1);
+        x.against(0, 8, 1);
+        x.against(0, 7, 1);
+        CHECKS.due("of two: 7, 8: nothing; 7, 9: 1; 9, 0: 1", 1, x.three(0, 2, 1));
+        CHECKS.due("the first of them", 11 * 1 + 8, x.three(0, 2, 0));
+        x.against(0, 7, 0);
+        x.against(0, 8, 0);
+        x.against(7, 9, 0);
+        x.against(8, 9, 0);
+        CHECKS.due("9, 0 alone", 11 * 10 + 1, x.three(0, 2, 0));
+        CHECKS.due("of three", (11 * 10 + 1) * 11 + 1, x.three(0, 3, 0));
+        CHECKS.due("of three: laid", 2, x.three(0, 3, 1));
     }
 
     private static void threeRefuses() {
@@ -149,6 +176,8 @@ public final class BestTest {
         CHECKS.due("the second", 1, x.whom(3, 0));
         CHECKS.due("how much", 1, x.whom(3, 1));
         x.set(2, 3, 2);
+        CHECKS.due("the fourth", 3, x.whom(3, 0));
+        CHECKS.due("how much", 2, x.whom(3, 1));
         x.set(2, 2, 2);
         CHECKS.due("the third", 2, x.whom(3, 0));
         CHECKS.due("how much", 2, x.whom(3, 1));
@@ -169,6 +198,8 @@ public final class BestTest {
         x.set(2, 1, 8);
         CHECKS.due("she holds it", 0, x.win(0, 3));
         CHECKS.due("by one", 1, x.win(0, 9));
+        CHECKS.due("by one, the first", 1, x.win(0, 0));
+        CHECKS.due("a speckled hen never comes to hold that", -1, x.win(1, 0));
         CHECKS.due("a speckled hen holds it", 0, x.win(1, 3));
         CHECKS.due("a speckled hen never comes to", -1, x.win(1, 9));
         CHECKS.due("nor an old one of an even number", -1, x.win(2, 0));

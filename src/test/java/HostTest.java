@@ -30,8 +30,9 @@ public final class HostTest {
             for (int sheet = 0; sheet < 4; sheet++) {
                 CHECKS.due("sheet(" + sheet + ", " + sort + ", 40)", 1, x.sheet(sheet, sort, 40));
                 CHECKS.due("its last", 1, x.cell(sheet, 39, 5));
+                CHECKS.due("its first", 1, x.cell(sheet, 0, 6));
                 CHECKS.due("its sort", 0, x.hens(sheet, sort, 0, 0));
-                CHECKS.due("0 and 5", 33, onSheet(x, sheet));
+                CHECKS.due("0, 5 and 6", 97, onSheet(x, sheet));
                 CHECKS.due("another", 1, x.sheet(sheet, sort, 40));
                 CHECKS.due("all 0 again", 1, onSheet(x, sheet));
                 CHECKS.due("of none", 1, x.sheet(sheet, sort, 0));
@@ -221,20 +222,17 @@ public final class HostTest {
     }
 
     private static void takenFor() {
-        LaidByArgument x = new LaidByArgument();
         // By each KIND, those that it is or is under.
         int[] above = {1, 3, 5, 11, 21, 33};
         for (int kind = 0; kind < 6; kind++) {
-            x.image();
-            int hen = x.count(0) < 5 ? x.hen(kind, kind + 2) : 0;
-            if (kind == 5) {
-                x = new LaidByArgument();
-                hen = x.hen(5, 7);
-            }
+            LaidByArgument one = new LaidByArgument();
+            one.hen(kind, kind + 2);
             for (int k = 0; k < 6; k++) {
-                CHECKS.due("kind " + kind + " taken for " + k, (above[kind] >> k & 1) == 1 ? kind + 2 : -13, x.taken(hen, k));
+                CHECKS.due("kind " + kind + " taken for " + k, (above[kind] >> k & 1) == 1 ? kind + 2 : -13, one.taken(0, k));
             }
         }
+        LaidByArgument x = new LaidByArgument();
+        x.hen(5, 7);
         CHECKS.due("k 6", -2, x.taken(0, 6));
         CHECKS.due("k -1", -2, x.taken(0, -1));
         CHECKS.due("k 6 ahead of no such hen", -2, x.taken(9, 6));

@@ -90,6 +90,7 @@ public final class PuttingTest {
     }
 
     private static void argueRefuses() {
+        CHECKS.due("nobody", -2, farm().argue(0, 0));
         LaidByArgument x = farm();
         x.hen(0, 0);
         x.set(2, 0, 1);
@@ -211,6 +212,12 @@ public final class PuttingTest {
         CHECKS.due("day", 0, x.told(0, 0));
         x.sheet(3, 0, 0);
         CHECKS.due("of none", 0, x.teach(3, 0));
+        Checks.row(x, 3, 0, 5, 8);
+        CHECKS.due("by two that none objects to", 0, x.teach(3, 1));
+        CHECKS.due("she holds these", 288, x.told(1, 2));
+        CHECKS.due("in thought she yields to both", 2, x.morning(3, 1, 3));
+        Checks.row(x, 3, 0, 5);
+        CHECKS.due("or to one alone", 1, x.morning(3, 1, 3));
     }
 
     private static void teachingRefuses() {

@@ -89,6 +89,12 @@ public final class TextsTest {
         fault("lays points;", 5);
         fault("lays poin;", 5);
         fault("lays pointday;", 5);
+        fault("lays xoint;", 5);
+        fault("lays dayz;", 5);
+        fault("lays aday;", 5);
+        fault("lays day" + (char) 96 + ";", 8);
+        fault("lays day{;", 8);
+        fault("lays 1:;", 6);
         fault("lay 1;", 0);
         fault("layss 1;", 0);
         fault("lays1;yields 1;drops 0;x", 23);
@@ -202,6 +208,12 @@ public final class TextsTest {
         CHECKS.due("lays by the rule still", 7, x.asks(0, 1, 1));
         x.force(2);
         CHECKS.due("lays by the next one", 9, x.asks(0, 1, 1));
+        CHECKS.due("a fault behind its first E", -107, Checks.read(x, "lays 2+"));
+        CHECKS.due("one behind it", 3, Checks.read(x, "lays 3;yields 0;drops 1;"));
+        x.force(3);
+        CHECKS.due("lays by that", 3, x.asks(0, 1, 1));
+        CHECKS.due("yields by that", 0, x.asks(0, 1, 2));
+        CHECKS.due("drops by that", 1, x.asks(0, 1, 3));
     }
 
     private static void sixTexts() {

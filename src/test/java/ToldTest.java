@@ -116,6 +116,10 @@ public final class ToldTest {
         Checks.row(x, 0, 0, 0, 99);
         CHECKS.due("day 99", 1, x.tells(0, 0, 3));
         CHECKS.due("day 99 is the least", 99, x.tells(0, 0, 4));
+        Checks.rule(x, "lays day = 100; yields 1; drops 0;");
+        Checks.row(x, 0, 0, 0, 1);
+        CHECKS.due("day 100 is none of them", 0, x.tells(0, 0, 3));
+        CHECKS.due("nor the least", -1, x.tells(0, 0, 4));
         CHECKS.due("the day stays", 500, x.told(0, 0));
     }
 
@@ -167,6 +171,8 @@ public final class ToldTest {
         CHECKS.due("two of four", 1 + 8, x.tells(0, 0, 7));
         Checks.row(x, 0, 0, 0, 2);
         CHECKS.due("one of four", 2, x.tells(0, 3, 7));
+        x.sheet(0, 0, 0);
+        CHECKS.due("all four, and none more", 15, x.tells(0, 3, 7));
     }
 
     private static void tellsRefuses() {
@@ -198,6 +204,9 @@ public final class ToldTest {
         CHECKS.due("not ints", -13, x.hens(2, 2, 0, 0));
         CHECKS.due("a missing one becomes one", 160, x.film(3, 0));
         CHECKS.due("it tells so too", -1, x.tells(3, 0, 0));
+        x.against(1, 0, 1);
+        CHECKS.due("by the first too", 200, x.film(3, 0));
+        CHECKS.due("it tells so as well", -1, x.tells(3, 0, 0));
         CHECKS.due("she is put none", 3, x.told(0, 2));
         CHECKS.due("no eggs", 0, x.told(0, 3));
         CHECKS.due("no such sheet", -2, x.film(4, 0));
