@@ -1,7 +1,9 @@
 /** What the tests share: they say each answer that is not the one that is due, and end with 1 then. */
 final class Checks {
     private final String name;
+    private String sentence = "";
     private int done;
+    private int doneBySentence = 1;
     private int wrong;
 
     Checks(String name) {
@@ -10,13 +12,25 @@ final class Checks {
 
     void due(String call, long want, long got) {
         done++;
+        doneBySentence++;
         if (got != want) {
             wrong++;
-            System.out.println(name + ": " + call + " answered " + got + ", due is " + want);
+            System.out.println(name + ": " + sentence + call + " answered " + got + ", due is " + want);
         }
     }
 
+    /** The answers from here on are due by this sentence of the document; each sentence has one at least. */
+    void by(String words) {
+        if (doneBySentence == 0) {
+            wrong++;
+            System.out.println(name + ": " + sentence + "nothing was asked");
+        }
+        doneBySentence = 0;
+        sentence = "\"" + words + "\": ";
+    }
+
     void end() {
+        by("");
         System.out.println(name + ": " + done + " answers, " + wrong + " of them not as due");
         if (wrong != 0 || done == 0) {
             System.exit(1);

@@ -15,14 +15,16 @@ public final class ModelTest {
     private final LaidByArgument program = new LaidByArgument();
     private final Model model = new Model();
     private String call = "";
+    /** Calls of the program: no answer is due behind the 512th, and a round takes up to 170. */
     private int calls;
+    private static final int ENOUGH_CALLS = 512 - 170;
 
     private ModelTest(long seed) {
         random = new Random(seed);
     }
 
     public static void main(String[] args) {
-        int runs = args.length > 0 ? Integer.parseInt(args[0]) : 400;
+        int runs = args.length > 0 ? Integer.parseInt(args[0]) : 800;
         long first = args.length > 1 ? Long.parseLong(args[1]) : 0;
         for (int run = 0; run < runs; run++) {
             new ModelTest(first + run).run(first + run);
@@ -41,7 +43,7 @@ public final class ModelTest {
             int other = random.nextInt(10);
             due("against", model.against(one, other, 1), program.against(one, other, 1), one, other, 1);
         }
-        while (calls < 300) {
+        while (calls < ENOUGH_CALLS) {
             int which = random.nextInt(37);
             if (which == 34) {
                 type(drawn(4) ? brokenText() : goodText());
@@ -54,7 +56,7 @@ public final class ModelTest {
     }
 
     private void hold() {
-        for (int hen = 0; hen < program.count(0); hen++) {
+        for (int hen = 0; hen < model.count(0); hen++) {
             int bits = random.nextInt(1024) & (drawn(2) ? 1023 : random.nextInt(1024));
             due("set", model.set(2, hen, bits), program.set(2, hen, bits), 2, hen, bits);
         }
@@ -75,7 +77,7 @@ public final class ModelTest {
     }
 
     private int hen() {
-        return program.count(0) == 0 ? v(4) : v(program.count(0) - 1);
+        return model.count(0) == 0 ? v(4) : v(model.count(0) - 1);
     }
 
     private int sheet() {
@@ -106,16 +108,16 @@ public final class ModelTest {
     }
 
     private void type(String text) {
-        if (program.count(4) > 0 && !drawn(10)) {
+        if (model.count(4) > 0 && !drawn(10)) {
             due("text", model.text(), program.text());
         }
-        for (int i = 0; i < text.length(); i++) {
+        for (int i = 0; i < text.length() && i < 161; i++) {
             int letter = text.charAt(i);
-            CHECKS.due("feed", model.feed(letter), program.feed(letter));
+            due("feed", model.feed(letter), program.feed(letter), letter);
         }
         due("text", model.text(), program.text());
         if (drawn(2)) {
-            int last = program.count(3) - 1;
+            int last = model.count(3) - 1;
             due("force", model.force(last), program.force(last), last);
         }
     }
@@ -227,7 +229,7 @@ public final class ModelTest {
                 due("text", model.text(), program.text());
                 break;
             case 7:
-                n = v(program.count(3));
+                n = v(model.count(3));
                 due("force", model.force(n), program.force(n), n);
                 break;
             case 8:
@@ -275,9 +277,9 @@ public final class ModelTest {
         int sort = random.nextInt(3);
         due("sheet", model.sheet(sheet, sort, n), program.sheet(sheet, sort, n), sheet, sort, n);
         for (int i = 0; i < n; i++) {
-            int item = ofPoints ? random.nextInt(10) : Math.max(0, program.asks(hen, i, 1));
+            int item = ofPoints ? random.nextInt(10) : Math.max(0, model.asks(hen, i, 1));
             item = drawn(80) ? item() : item;
-            CHECKS.due("cell", model.cell(sheet, i, item), program.cell(sheet, i, item));
+            due("cell", model.cell(sheet, i, item), program.cell(sheet, i, item), sheet, i, item);
         }
     }
 

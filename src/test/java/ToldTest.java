@@ -260,9 +260,9 @@ public final class ToldTest {
     }
 
     private static void chances() {
-        LaidByArgument x = farm();
-        Checks.rule(x, "lays point+1; yields 1; drops 0;");
         for (int seed = Integer.MAX_VALUE - 3; seed != Integer.MIN_VALUE + 3; seed++) {
+            LaidByArgument x = farm();
+            Checks.rule(x, "lays point+1; yields 1; drops 0;");
             for (int m = 1; m <= 20; m += 19) {
                 for (int k = 0; k < 30; k += 5) {
                     int enough = 0;
@@ -279,6 +279,7 @@ public final class ToldTest {
                 }
             }
         }
+        LaidByArgument x = farm();
         CHECKS.due("never: above", 0, x.chance(5, 12, 0, 999, 0));
         CHECKS.due("never: below", 1, x.chance(5, 12, 0, 999, 1));
         CHECKS.due("ever: above", 1, x.chance(5, 12, 0, 0, 0));
