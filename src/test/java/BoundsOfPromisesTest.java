@@ -94,7 +94,7 @@ public final class BoundsOfPromisesTest {
     }
 
     private static void set() {
-        CHECKS.by("3. DAY (what 0; of does not matter) becomes v: what it was");
+        CHECKS.by("3. DAY (what 0; of does not matter) .. becomes v: what it was.");
         LaidByArgument x = new LaidByArgument();
         int was = 0;
         for (int of : ANY) {
@@ -296,7 +296,7 @@ public final class BoundsOfPromisesTest {
     }
 
     private static void morning() {
-        CHECKS.by("12. how much she LAYS (what 0), HOLDS then (1; bits), by how many she LAYS nothing (2), YIELDS (3)");
+        CHECKS.by("12. how much she LAYS (what 0), what she HOLDS then (1; bits), by how many she LAYS nothing (2), by how many she YIELDS (3).");
         LaidByArgument x = ring(0);
         int[] none = {0, 1023, 0, 0};
         int[] forty = {1, 1 + 4, 39, 40};
@@ -312,6 +312,13 @@ public final class BoundsOfPromisesTest {
         for (int what = 0; what < 4; what++) {
             CHECKS.due("of forty, 2 and then 0, what " + what, forty[what], x.morning(3, 0, what));
         }
+        LaidByArgument never = farm(5, 0, 0);
+        never.sheet(0, 0, 40);
+        CHECKS.due("by none she yields", 0, never.morning(0, 0, 3));
+        CHECKS.due("by none she lays nothing", 0, never.morning(0, 0, 2));
+        LaidByArgument once = farm(2, 0, 3, 9, 19, 40);
+        Checks.row(once, 0, 0, 9, 4, 9, 9);
+        CHECKS.due("by 4, and by 9 behind it, for 0 goes", 3, once.morning(0, 0, 3));
         CHECKS.by("12. BAD: it tells one that is no ARGUMENT.");
         int[] items = {-1, 0, 9, 10};
         for (int item : items) {
@@ -371,7 +378,7 @@ public final class BoundsOfPromisesTest {
     }
 
     private static void field() {
-        CHECKS.by("15. STANDING (bits), out of it (bits), FREE sets, STABLE ones, the least of these (NONE), VAIN");
+        CHECKS.by("15. STANDING (what 0; bits), what is out of it (1; bits), how many FREE sets (2), STABLE ones (3), the least of these (4; NONE), VAIN (5).");
         int[] none = {1023, 0, 1024, 1, 1023, 0};
         int[] all = {0, 0, 11, 10, 1, 0};
         int[] ring = {0, 0, 123, 2, 341, 0};
@@ -427,6 +434,8 @@ public final class BoundsOfPromisesTest {
         LaidByArgument x = farm(0, 0, 0);
         CHECKS.due("by none", 0, x.best(0, 0));
         CHECKS.due("nothing", 0, x.best(0, 1));
+        CHECKS.due("a speckled one, to whom all are objected", 0, ring(5).best(0, 0));
+        CHECKS.due("nothing either", 0, ring(5).best(0, 1));
         LaidByArgument y = farm(0, 0, 1023, 89);
         Checks.rule(y, "lays 100;yields 1;drops 0;");
         CHECKS.due("by the last", 9, y.best(0, 0));
@@ -525,7 +534,7 @@ public final class BoundsOfPromisesTest {
     }
 
     private static void film() {
-        CHECKS.by("24. A SHEET truly becomes how much one would LAY by ARGUMENTS 0 .. 9 (bytes): all, together.");
+        CHECKS.by("24. A SHEET truly becomes how much one would LAY by ARGUMENTS 0 .. 9, each PUT now (bytes): all, together.");
         LaidByArgument x = ring(0);
         Checks.rule(x, "lays 100;yields 1;drops 0;");
         CHECKS.due("the most by each", 990, x.film(0, 0));
@@ -541,6 +550,8 @@ public final class BoundsOfPromisesTest {
         CHECKS.due("nothing by each", 0, x.film(3, 0));
         CHECKS.due("it tells nothing by each", -1, x.tells(3, 0, 0));
         CHECKS.due("she is put none", 0, x.told(0, 2));
+        CHECKS.due("a speckled one, to whom all are objected", 0, ring(5).film(0, 0));
+        CHECKS.due("a speckled one, to whom none is", 10, farm(5, 0, 0).film(0, 0));
     }
 
     private static void drawn() {
@@ -628,7 +639,7 @@ public final class BoundsOfPromisesTest {
     }
 
     private static void count() {
-        CHECKS.by("29. 0 HENS, 1 ordered twos .., 2 EGGS of all, 3 TEXTS, 4 bytes of THE TAPE, 5 THE RULE");
+        CHECKS.by("29. How many: 0 HENS, 1 ordered twos of which the first is AGAINST the second, 2 EGGS of all, 3 TEXTS, 4 bytes of THE TAPE, 5 THE RULE.");
         int[] least = {0, 0, 0, 1, 0, 0};
         int[] most = {5, 90, 4995, 6, 160, 5};
         LaidByArgument x = allAgainstAll();
@@ -670,7 +681,7 @@ public final class BoundsOfPromisesTest {
     }
 
     private static void cell() {
-        CHECKS.by("31. Item i of a SHEET becomes v: 1. .. -12");
+        CHECKS.by("31. Item i of a SHEET becomes v .. BAD: no such SHEET; -11; -12.");
         LaidByArgument x = farm(0, 0, 0);
         for (int sort = 0; sort < 3; sort++) {
             x.sheet(3, sort, 40);
@@ -707,7 +718,7 @@ public final class BoundsOfPromisesTest {
     }
 
     private static void copy() {
-        CHECKS.by("32. n numbers of a SHEET, from item i on, come to another one's item j on: n. .. -12 (also with n below 0)");
+        CHECKS.by("32. n numbers of a SHEET, from item i on, come to another one's item j on (as they were): n. .. -12 (also with n below 0).");
         LaidByArgument x = farm(0, 0, 0);
         for (int sort = 0; sort < 3; sort++) {
             x.sheet(0, sort, 40);

@@ -188,7 +188,7 @@ public final class BoundsOfTermsTest {
         x.hen(0, 1);
         CHECKS.by("HOLD some ARGUMENTS (bits; none as one comes)");
         CHECKS.due("where another one was", 0, x.told(0, 2));
-        CHECKS.by("EGGS (.. 0 as one comes)");
+        CHECKS.by("EGGS (0 .. 999; 0 as one comes)");
         CHECKS.due("where another one was", 0, x.told(0, 3));
     }
 
@@ -414,6 +414,24 @@ public final class BoundsOfTermsTest {
         fault(padded("lays 1;yields 1;drops 0", 160), 160);
         fault(padded("lays 1;yields 1;drops 0", 159) + "(", 159);
         CHECKS.due("the last byte is the last ;", 1, read(padded("lays 1;yields 1;drops 0", 159) + ";"));
+        fullTapes();
+    }
+
+    /** Five TEXTS, each of as many parts as THE TAPE has room for, and each with the whole tape for itself. */
+    private static void fullTapes() {
+        StringBuilder sum = new StringBuilder("lays 0");
+        while (sum.length() < 140) {
+            sum.append("+1");
+        }
+        LaidByArgument x = farm(0, 0, 1, 9);
+        for (int number = 1; number < 3; number++) {
+            CHECKS.due("160 bytes", 160, Checks.feedAll(x, sum + ";yields 1+0;drops 0;"));
+            CHECKS.due("the text of them", number, x.text());
+            x.force(number);
+            CHECKS.due("the sum of all its ones", 67, x.asks(0, 9, 1));
+            CHECKS.due("its yes", 1, x.asks(0, 9, 2));
+            CHECKS.due("its no", 0, x.asks(0, 9, 3));
+        }
     }
 
     private static void tokensAsLongAsCanBe() {
@@ -544,14 +562,30 @@ public final class BoundsOfTermsTest {
             fault((char) letter + "lays 1;", 0);
         }
         CHECKS.by("a WORD that is neither KEY nor NAME");
-        String[] words = {"a", "poin", "points", "nand", "xor", "layss", "drop", "egg", "eggsa", "holds".repeat(5)};
-        for (String word : words) {
-            fault("lays 1+ " + word + ";", 8);
-            fault(word, 0);
+        String[] known = {
+            "point", "against", "holds", "number", "day", "eggs", "lays", "yields", "drops", "or", "and", "not",
+        };
+        for (String word : known) {
+            fault(word + ";", word.equals("lays") ? 4 : 0);
+            noWord("q" + word);
+            noWord("a" + word);
+            noWord(word + "a");
+            noWord(word + "z");
+            noWord("z" + word.substring(1));
+            noWord(word.substring(1));
+            noWord(word.substring(0, word.length() - 1) + "z");
+            noWord(word.substring(0, word.length() - 1));
+            noWord(word + word);
         }
         CHECKS.by("a NUMBER that is too long");
         fault("lays 1+ 10000;", 8);
         fault("lays 1;yields 1;drops 0;00001", 24);
+    }
+
+    private static void noWord(String word) {
+        fault("lays 1+ " + word + ";", 8);
+        fault(word + ";", 0);
+        fault("lays 1 " + word, 7);
     }
 
     private static void fiveOpen() {
@@ -566,6 +600,10 @@ public final class BoundsOfTermsTest {
         good("not not not not not 1");
         fault("lays not not not not not not 1;", 25);
         good("((((not 1))))");
+        good("(((not not 1)))");
+        good("((not not not 1))");
+        fault("lays (((not not not 1)));", 16);
+        fault("lays ((not not not not 1));", 19);
         fault("lays (((((not 1)))));", 10);
         fault("lays -(-((not 1)));", 10);
         fault("lays -(-(not not 1));", 13);
@@ -573,6 +611,10 @@ public final class BoundsOfTermsTest {
         good("-----1");
         fault("lays ------1;", 10);
         good("((((-1))))");
+        good("(((--1)))");
+        good("((---1))");
+        fault("lays (((---1)));", 10);
+        fault("lays ((----1));", 10);
         fault("lays (((((-1)))));", 10);
         good("not not not not -1");
         fault("lays not not not not not -1;", 25);
@@ -640,6 +682,7 @@ public final class BoundsOfTermsTest {
         CHECKS.due("999", 999, x.told(0, 3));
         x.argue(0, 9);
         CHECKS.due("999 at most", 999, x.told(0, 3));
+        cappedInThought();
         CHECKS.by("if she YIELDS, she HOLDS it, and no more those it is AGAINST");
         LaidByArgument y = farm(0, 0, 511, 90, 91, 92, 93, 94, 95, 96, 97, 98);
         y.argue(0, 9);
@@ -657,6 +700,32 @@ public final class BoundsOfTermsTest {
         Checks.rule(w, "lays 5;yields eggs=0 and holds=1 and against=1;drops 0;");
         CHECKS.due("lays", 5, w.argue(0, 9));
         CHECKS.due("yields by what was", 513, w.told(0, 2));
+    }
+
+    /** By eggs she lays 9, then as many as the bound leaves: 999 less 995 is 4, then none less. */
+    private static void cappedInThought() {
+        LaidByArgument x = farm(0, 0, 1, 9);
+        Checks.rule(x, "lays 9-(eggs=999)*5-(999<eggs)*7;yields 0;drops 0;");
+        x.set(3, 0, 995);
+        Checks.row(x, 0, 0, 9, 9, 9);
+        CHECKS.due("a morning of three", 9 + 4 + 4, x.morning(0, 0, 0));
+        CHECKS.due("three", 9 + 4 + 4, x.three(0, 3, 1));
+        CHECKS.due("two", 9 + 4, x.three(0, 2, 1));
+        CHECKS.due("three nights", 9 + 4 + 4, x.nights(0, 9, 3, 1));
+        LaidByArgument y = ofAll();
+        CHECKS.due("sixty that are drawn", 9 + 59 * 4, y.drawn(0, 0, 60));
+        CHECKS.due("eight that are drawn: so many", 1, y.chance(0, 1, 0, 9 + 7 * 4, 0));
+        CHECKS.due("eight that are drawn: no more", 0, y.chance(0, 1, 0, 9 + 7 * 4 + 1, 0));
+        CHECKS.due("in thought", 995, x.told(0, 3) == y.told(0, 3) ? 995 : 0);
+        CHECKS.due("truly", 9 + 4 + 4, x.teach(0, 0));
+        CHECKS.due("truly, eggs", 999, x.told(0, 3));
+    }
+
+    private static LaidByArgument ofAll() {
+        LaidByArgument y = farm(0, 0, 1023, 1, 12, 23, 34, 45, 56, 67, 78, 89, 90);
+        Checks.rule(y, "lays 9-(eggs=999)*5-(999<eggs)*7;yields 0;drops 0;");
+        y.set(3, 0, 995);
+        return y;
     }
 
     private static void nights() {
@@ -806,6 +875,20 @@ public final class BoundsOfTermsTest {
             CHECKS.due("9 alone, n " + n, last[n], y.three(0, n, 0));
             CHECKS.due("laid by 9 alone, n " + n, n, y.three(0, n, 1));
         }
+        LaidByArgument w = farm(0, 0, 512, 90);
+        for (int n = 3; n >= 0; n--) {
+            CHECKS.due("the longer ones ahead, 9 alone, n " + n, last[n], y.three(0, n, 0));
+            CHECKS.due("the longer ones ahead, laid by 9 alone, n " + n, n, y.three(0, n, 1));
+            CHECKS.due("the longer ones ahead, 0 alone, n " + n, first[n], w.three(0, n, 0));
+            CHECKS.due("the longer ones ahead, laid by 0 alone, n " + n, n, w.three(0, n, 1));
+        }
+        LaidByArgument eggs = ofAll();
+        Checks.rule(eggs, "lays eggs+1;yields 0;drops 0;");
+        eggs.set(3, 0, 0);
+        for (int n = 0; n < 4; n++) {
+            CHECKS.due("each from her own eggs on, n " + n, first[n], eggs.three(0, n, 0));
+            CHECKS.due("each from her own eggs on, laid, n " + n, (1 << n) - 1, eggs.three(0, n, 1));
+        }
         CHECKS.by("(by the first one, then the next one, ..)");
         // 9, 0: 1 and 2, 3: 1 and none more, for each of these goes by nothing: of like ones 0, 9 and 2, 3.
         LaidByArgument z = farm(0, 0, 0, 9, 23, 90, 32);
@@ -836,6 +919,15 @@ public final class BoundsOfTermsTest {
         int[] due = {0, 1, 2, 3, -1, -1, -1, -1, -1, -1};
         for (int point = 0; point < 10; point++) {
             CHECKS.due("" + point, due[point], x.win(0, point));
+        }
+        for (int point = 9; point >= 0; point--) {
+            CHECKS.due("the other way, " + point, due[point], x.win(0, point));
+        }
+        LaidByArgument y = farm(0, 0, 0);
+        Checks.rule(y, "lays 0;yields holds<1;drops 0;");
+        for (int point = 0; point < 10; point++) {
+            CHECKS.due("by one alone, " + point, 1, y.win(0, point));
+            CHECKS.due("by one alone, again, " + point, 1, y.win(0, point));
         }
     }
 
@@ -883,6 +975,7 @@ public final class BoundsOfTermsTest {
         x.sheet(0, 0, 11);
         CHECKS.due("of eleven", -2, x.tells(0, 0, 0));
         CHECKS.by("KINDS (bits 0 .. 5)");
+        CHECKS.due("by her own number, eggs and what she holds", 8, asked(1));
         x.sheet(0, 0, 0);
         CHECKS.due("all", 63, x.tells(0, 0, 1));
         Checks.row(x, 0, 0, 2);
@@ -890,6 +983,7 @@ public final class BoundsOfTermsTest {
         Checks.row(x, 0, 0, 1);
         CHECKS.due("the last", 32, x.tells(0, 0, 1));
         CHECKS.by("NUMBERS (bits 0 .. 9)");
+        CHECKS.due("by her own kind, eggs and what she holds", 64, asked(2));
         LaidByArgument old = farm(3, 4, 1);
         Checks.row(old, 0, 0, 9);
         CHECKS.due("the last", 512, old.tells(0, 0, 2));
@@ -901,6 +995,17 @@ public final class BoundsOfTermsTest {
         CHECKS.due("all", 1023, old.tells(0, 0, 2));
         daysTold();
         changedTold();
+    }
+
+    /** An OLD one of number 6, who has 2 eggs and holds 0, 9: what is asked first of a new object. */
+    private static int asked(int what) {
+        LaidByArgument x = farm(3, 6, 513, 9);
+        Checks.rule(x, "lays eggs+1;yields 1;drops 0;");
+        x.set(3, 0, 2);
+        x.sheet(0, 0, what == 5 ? 1 : 10);
+        x.cell(0, 0, 6);
+        x.cell(0, 9, 12);
+        return x.tells(0, 0, what);
     }
 
     private static void daysTold() {
@@ -925,6 +1030,7 @@ public final class BoundsOfTermsTest {
 
     private static void changedTold() {
         CHECKS.by("were just that one HELD now if it isn't, or not if it is");
+        CHECKS.due("by her own kind, number and eggs: any but 0", 1022, asked(5));
         LaidByArgument x = farm(0, 0, 1, 9, 19);
         x.sheet(0, 0, 10);
         CHECKS.due("were 0 not held", 1, x.tells(0, 0, 5));

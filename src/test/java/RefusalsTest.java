@@ -507,7 +507,7 @@ public final class RefusalsTest {
     }
 
     private static void whatOnlyAsks() {
-        CHECKS.by("in thought; PUT now; were they THE RULE");
+        CHECKS.by("A MORNING of one, in thought .. n NIGHTS (0 .. 30), in thought .. were they THE RULE");
         String ahead = Depths.of(farm());
         for (int what = 0; what < 8; what++) {
             for (int hen = 0; hen < 3; hen++) {
