@@ -5,6 +5,7 @@ public final class BoundsOfTermsTest {
     private static final String MOST = "(9999*9999*21+4790*9999+8416)";
 
     public static void main(String[] args) {
+        manyCalls();
         tenArguments();
         thousandDays();
         fiveHens();
@@ -106,6 +107,18 @@ public final class BoundsOfTermsTest {
         x.set(0, 0, 1);
         Checks.rule(x, "lays " + v + ";yields 0;drops 0;");
         return x.asks(0, 9, 1);
+    }
+
+    private static void manyCalls() {
+        CHECKS.by("An object is used for at most 512 calls after it has been made");
+        LaidByArgument x = new LaidByArgument();
+        x.hen(0, 0);
+        x.against(0, 9, 1);
+        x.set(2, 0, 1);
+        for (int call = 4; call < 512; call++) {
+            CHECKS.due("call " + call, 1, x.argue(0, 9));
+        }
+        CHECKS.due("call 512", 508, x.told(0, 3));
     }
 
     private static void tenArguments() {
@@ -534,7 +547,11 @@ public final class BoundsOfTermsTest {
         fault("lays 1 point ;", 7);
         fault("lays 1;;", 7);
         fault("lays 1;yields 1;drops 0; lays 1;", 25);
-        fault("lays 1;yields 1;drops 0;;", 24);
+        String[] tokens = {"1", "point", "lays", "or", "not", "(", ")", ";", "+", "-", "*", "<", "=", "12345", "foo", "#"};
+        for (String token : tokens) {
+            fault("lays 1;yields 1;drops 0;" + token, 24);
+            fault("lays 1;yields 1;drops 0; " + token + " ", 25);
+        }
         fault("lays ) ( foo 12345 #", 5);
     }
 
