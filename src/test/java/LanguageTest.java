@@ -6,6 +6,8 @@ import java.lang.reflect.Modifier;
 import java.nio.file.Files;
 import java.nio.file.Path;
 import java.util.TreeSet;
+import java.util.regex.Matcher;
+import java.util.regex.Pattern;
 
 /** The face of the document, and such rules of LANGUAGE.md as can be seen in the source or by reflection. */
 public final class LanguageTest {
@@ -19,6 +21,16 @@ public final class LanguageTest {
         "chance(int,int,int,int,int):long", "image():int", "back():int", "count(int):int", "sheet(int,int,int):int",
         "cell(int,int,int):int", "copy(int,int,int,int,int):int", "hens(int,int,int,int):int", "taken(int,int):int",
     };
+    /** What the interface says, and ahead of which calls. */
+    private static final String[] HEADS = {
+        "---- arguments, hens", "against", "set", "hen", "told", "asks",
+        "---- texts", "feed", "text", "force",
+        "---- putting, nights", "argue", "night", "morning", "teach", "nights",
+        "---- which stand", "field", "sets", "share",
+        "---- what would be best", "best", "three", "whom", "win", "agree",
+        "---- what was told of laying", "tells", "film", "drawn", "chance", "image", "back", "count",
+        "---- the host", "sheet", "cell", "copy", "hens", "taken",
+    };
     private static final String[] NEVER = {
         "throw", "throws", "try", "catch", "finally", "synchronized", "assert", "import", "package", "var", "yield",
         "record", "volatile", "transient", "native", "strictfp", "float", "double", "Math.random", "System.out",
@@ -29,7 +41,9 @@ public final class LanguageTest {
         constants();
         face();
         classesInside();
-        source(code(Files.readString(Path.of("src/main/java/LaidByArgument.java"))));
+        String source = Files.readString(Path.of("src/main/java/LaidByArgument.java"));
+        heads(source);
+        source(code(source));
         CHECKS.end();
     }
 
@@ -113,6 +127,15 @@ public final class LanguageTest {
         for (Method method : one.getDeclaredMethods()) {
             CHECKS.due(method + " takes at most seven", 1, method.getParameterCount() <= 7 ? 1 : 0);
         }
+    }
+
+    private static void heads(String source) {
+        Matcher said = Pattern.compile("(?m)^    (?:// (---- .*)|public (?:int|long) (\\w+)\\(.*)$").matcher(source);
+        for (String due : HEADS) {
+            String found = !said.find() ? "nothing" : said.group(1) != null ? said.group(1) : said.group(2);
+            CHECKS.due("the interface says " + due + ", not " + found, 1, found.equals(due) ? 1 : 0);
+        }
+        CHECKS.due("the interface says no more", 0, said.find() ? 1 : 0);
     }
 
     /** The source without its comments and texts. */
